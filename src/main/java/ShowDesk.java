@@ -51,7 +51,6 @@ public final class ShowDesk {
         Kind over = kinds.find(above);
         if (over == null && above != NONE) return BAD;
         if (over != null && over.depth >= MOST_ABOVE) return STATE;
-        if (kinds.isFull()) return FULL;
         return kinds.add(over);
     }
 
@@ -267,12 +266,8 @@ public final class ShowDesk {
             return number >= 0 && number < size ? all[number] : null;
         }
 
-        boolean isFull() {
-            return size >= MOST_KINDS;
-        }
-
         int add(Kind over) {
-            if (isFull()) return FULL;
+            if (size >= MOST_KINDS) return FULL;
             all[size] = new Kind(size, over);
             size++;
             return size - 1;
@@ -531,8 +526,6 @@ public final class ShowDesk {
             failures = 0;
             vetoes = 0;
             deepest = 0;
-            vetoer = NONE;
-            value = 0L;
         }
 
         void addCue(int depth) {

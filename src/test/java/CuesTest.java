@@ -195,8 +195,9 @@ public final class CuesTest {
         due("past it", x.logged(66), 0);
         due("-1", x.logged(-1), 0);
         for (int i = 0; i < 11; i++) add(x, 0, AFTER, 0, 1, 7, 8, 0, 8, 0, 8, 0, 8, 0);
-        x.send(0, 0);
+        x.send(0, 9);
         due("all are counted", x.told(3), 110);
+        due("the first", x.logged(0), 9);
         due("number 99", x.logged(99), 7);
         due("number 100", x.logged(100), 0);
         due("number 109", x.logged(109), 0);
@@ -204,6 +205,7 @@ public final class CuesTest {
         x.send(0, 3);
         due("of the latest send", x.told(3), 0);
         due("none", x.logged(0), 0);
+        due("nor the next", x.logged(1), 0);
     }
 
     private static void refusedSendsChangeNothing() {

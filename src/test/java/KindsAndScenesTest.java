@@ -124,6 +124,9 @@ public final class KindsAndScenesTest {
         due("of none", x.listener(4, 0), 1);
         due("there", x.count(4), 2);
         due("its scene stays told", x.listener(0, 4), 0);
+        for (int i = 5; i < 200; i++) x.listen(0, 0, 0, 1);
+        due("with 200 listeners", x.close(1), 196);
+        due("there then", x.count(4), 1);
     }
 
     private static void counts() {

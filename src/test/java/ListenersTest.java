@@ -56,6 +56,9 @@ public final class ListenersTest {
         due("its number is used up", x.listen(0, 0, 0, NO), ShowDesk.FULL);
         due("all the others are told", x.send(0, 1), 1);
         due("how many", x.told(2), 199);
+        due("the last", x.listener(199, 0), 1);
+        due("there is no number 200", x.listener(200, 0), ShowDesk.BAD);
+        due("nor can it leave", x.leave(200), ShowDesk.BAD);
     }
 
     private static void refusalsOfListenInOrder() {

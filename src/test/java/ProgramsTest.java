@@ -95,7 +95,9 @@ public final class ProgramsTest {
         long[] like = {1, 1, AFTER, -9, 0, 2, 1, 0, 0};
         for (int what = 0; what <= 8; what++) due("comer's " + what, x.listener(2, what), like[what]);
         due("its filter", x.send(1, 5), 1);
-        due("passes by", x.told(2), 0);
+        due("passes by what is above", x.told(2), 0);
+        x.send(1, 2);
+        due("and what is below", x.told(2), 0);
         due("a step for it alone", x.step(2, 0, 30), 3);
         due("the model's steps", x.listener(model, 5), 2);
         x.send(1, 4);
@@ -226,6 +228,9 @@ public final class ProgramsTest {
         add(x, 0, AT, -1, 11, 9);
         x.send(0, 0);
         due("no kind ahead of too deep", x.failure(1, 0), NULL);
+        x.leave(0);
+        x.send(0, 0);
+        due("at once, of the latest send", x.told(6), 1);
     }
 
     private static void cuesForLater() {
