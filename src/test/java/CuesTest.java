@@ -1,8 +1,6 @@
 /** Promises 14 send, 15 told, 16 value, 17 logged, 18 failure, 19 meter, 20 back: how one cue is told. */
-public final class CuesTest {
+public final class CuesTest extends Desks {
     private static final Check CHECK = new Check("CuesTest");
-    private static final int NO = ShowDesk.NONE;
-    private static final int BEFORE = 0, AT = 1, AFTER = 2;
 
     public static void main(String[] args) {
         phasesAroundTheAct();
@@ -24,20 +22,8 @@ public final class CuesTest {
         CHECK.due(what, got, want);
     }
 
-    private static ShowDesk desk(int kinds) {
-        ShowDesk x = new ShowDesk();
-        for (int i = 0; i < kinds; i++) x.kind(i == 0 ? NO : i - 1);
-        return x;
-    }
-
-    private static int add(ShowDesk x, int kind, int phase, int rank, int... program) {
-        int listener = x.listen(kind, phase, rank, NO);
-        for (int i = 0; i < program.length; i += 2) x.step(listener, program[i], program[i + 1]);
-        return listener;
-    }
-
     private static void phasesAroundTheAct() {
-        ShowDesk x = desk(2);
+        ShowDesk x = line(2);
         add(x, 0, AFTER, 9, 0, 1000, 8, 0);
         add(x, 0, AT, 9, 0, 100, 8, 0);
         add(x, 1, BEFORE, 9, 0, 10, 8, 0);
@@ -56,14 +42,14 @@ public final class CuesTest {
     }
 
     private static long made(long v, int op, int n) {
-        ShowDesk x = desk(1);
+        ShowDesk x = line(1);
         add(x, 0, AT, 0, op, n);
         x.send(0, v);
         return x.value();
     }
 
     private static int fault(long v, int op, int n) {
-        ShowDesk x = desk(1);
+        ShowDesk x = line(1);
         add(x, 0, AT, 0, op, n);
         x.send(0, v);
         return x.failure(0, 0);
@@ -81,7 +67,7 @@ public final class CuesTest {
         due("remainder of 0", fault(7, 5, 0), 5);
         due("own failure 20", fault(7, 3, 20), 20);
         due("own failure 29", fault(7, 3, 29), 29);
-        ShowDesk x = desk(1);
+        ShowDesk x = line(1);
         x.send(0, Long.MAX_VALUE);
         x.send(0, 1);
         due("meters wrap", x.meter(0), Long.MIN_VALUE);
@@ -89,18 +75,18 @@ public final class CuesTest {
 
     private static void passingOverAndEnding() {
         for (int v = 4; v <= 6; v++) {
-            ShowDesk x = desk(1);
+            ShowDesk x = line(1);
             add(x, 0, AT, 0, 6, 5, 0, 100, 0, 10);
             x.send(0, v);
             due("6 with " + v, x.value(), v < 5 ? v + 10 : v + 110);
         }
-        ShowDesk x = desk(1);
+        ShowDesk x = line(1);
         add(x, 0, AT, 0, 0, 1, 7, 0, 0, 10, 3, 20);
         add(x, 0, AT, -1, 6, 100);
         x.send(0, 1);
         due("7 ends well", x.value(), 2);
         due("no failures", x.told(4), 0);
-        x = desk(1);
+        x = line(1);
         add(x, 0, AT, 0, 6, 5, 7, 0, 0, 1, 6, 9, 6, 9, 3, 21);
         x.send(0, 4);
         due("a passed over 6 does nothing", x.failure(0, 0), 21);
@@ -108,7 +94,7 @@ public final class CuesTest {
     }
 
     private static void failuresLeaveTheValue() {
-        ShowDesk x = desk(1);
+        ShowDesk x = line(1);
         int first = add(x, 0, BEFORE, 3, 0, 1);
         int second = add(x, 0, BEFORE, 2, 0, 10, 8, 0, 3, 22, 8, 0);
         int third = add(x, 0, BEFORE, 1, 0, 100);
@@ -120,20 +106,20 @@ public final class CuesTest {
         due("what", x.failure(0, 0), 22);
         due("who", x.failure(0, 1), second);
         due("step", x.failure(0, 2), 2);
-        due("failure 1", x.failure(1, 0), ShowDesk.BAD);
-        due("failure -1", x.failure(-1, 0), ShowDesk.BAD);
-        due("what 3", x.failure(0, 3), ShowDesk.BAD);
-        due("what -1", x.failure(0, -1), ShowDesk.BAD);
+        due("failure 1", x.failure(1, 0), BAD);
+        due("failure -1", x.failure(-1, 0), BAD);
+        due("what 3", x.failure(0, 3), BAD);
+        due("what -1", x.failure(0, -1), BAD);
         due("told", x.told(2), 3);
         due("each once", x.listener(first, 7) + x.listener(second, 7) + x.listener(third, 7), 3);
         x.leave(second);
         x.send(0, 0);
-        due("the failures are those of the latest send", x.failure(0, 0), ShowDesk.BAD);
+        due("the failures are those of the latest send", x.failure(0, 0), BAD);
         due("none", x.told(4), 0);
     }
 
     private static void vetoes() {
-        ShowDesk x = desk(2);
+        ShowDesk x = line(2);
         add(x, 0, BEFORE, 3, 0, 1);
         int vetoer = add(x, 0, BEFORE, 2, 0, 10, 2, 0, 8, 0);
         add(x, 0, BEFORE, 1, 0, 100);
@@ -155,13 +141,13 @@ public final class CuesTest {
         due("no vetoes", x.told(5), 0);
         due("by none", x.told(7), NO);
         due("value", x.value(), 2106);
-        due("told 8", x.told(8), ShowDesk.BAD);
-        due("told -1", x.told(-1), ShowDesk.BAD);
+        due("told 8", x.told(8), BAD);
+        due("told -1", x.told(-1), BAD);
     }
 
     private static void lateVetoes() {
         for (int phase = AT; phase <= AFTER; phase++) {
-            ShowDesk x = desk(1);
+            ShowDesk x = line(1);
             add(x, 0, phase, 0, 0, 1, 2, 0);
             add(x, 0, phase, -1, 0, 10);
             x.send(0, 0);
@@ -173,7 +159,7 @@ public final class CuesTest {
     }
 
     private static void filtersSeeTheValueAsItIsThen() {
-        ShowDesk x = desk(1);
+        ShowDesk x = line(1);
         add(x, 0, BEFORE, 9, 1, 50);
         int old = add(x, 0, BEFORE, 8);
         int now = add(x, 0, AFTER, 7);
@@ -186,7 +172,7 @@ public final class CuesTest {
     }
 
     private static void theLog() {
-        ShowDesk x = desk(1);
+        ShowDesk x = line(1);
         for (int i = 0; i < 11; i++) add(x, 0, AT, -i, 8, 0, 0, 1, 8, 0, 0, 1, 8, 0, 0, 1, 8, 0, 0, 1, 8, 0, 8, 0);
         x.send(0, 1L << 40);
         due("counted", x.told(3), 66);
@@ -209,12 +195,12 @@ public final class CuesTest {
     }
 
     private static void refusedSendsChangeNothing() {
-        ShowDesk x = desk(1);
+        ShowDesk x = line(1);
         add(x, 0, BEFORE, 0, 8, 0, 3, 25);
         x.send(0, 7);
-        due("kind 1", x.send(1, 9), ShowDesk.BAD);
-        due("kind -1", x.send(-1, 9), ShowDesk.BAD);
-        due("kind NONE", x.send(NO, 9), ShowDesk.BAD);
+        due("kind 1", x.send(1, 9), BAD);
+        due("kind -1", x.send(-1, 9), BAD);
+        due("kind NONE", x.send(NO, 9), BAD);
         due("value", x.value(), 7);
         due("cues", x.told(1), 1);
         due("most at once", x.told(6), 1);
@@ -225,12 +211,12 @@ public final class CuesTest {
     }
 
     private static void metersMovedBack() {
-        ShowDesk x = desk(2);
+        ShowDesk x = line(2);
         x.send(0, 5);
         x.send(1, 70);
         x.send(0, 900);
-        due("-1", x.back(-1), ShowDesk.BAD);
-        due("51", x.back(51), ShowDesk.BAD);
+        due("-1", x.back(-1), BAD);
+        due("51", x.back(51), BAD);
         due("none", x.back(0), 0);
         due("two", x.back(2), 2);
         due("meter 0", x.meter(0), 5);
@@ -245,7 +231,7 @@ public final class CuesTest {
     }
 
     private static void fiftyActsAreKept() {
-        ShowDesk x = desk(1);
+        ShowDesk x = line(1);
         for (int i = 0; i < 57; i++) x.send(0, 1L << (i % 60));
         due("kept", x.count(5), 50);
         due("three", x.back(3), 3);
@@ -258,7 +244,7 @@ public final class CuesTest {
     }
 
     private static void hushedAfterTwentyFourFailures() {
-        ShowDesk x = desk(1);
+        ShowDesk x = line(1);
         int last = 0;
         for (int i = 0; i < 30; i++) last = add(x, 0, BEFORE, -i, 3, 20 + i % 10);
         int after = add(x, 0, AFTER, 0, 0, 1);
@@ -267,7 +253,7 @@ public final class CuesTest {
         due("told", x.told(2), 24);
         due("the last failure", x.failure(23, 1), 23);
         due("what it is", x.failure(23, 0), 23);
-        due("no more", x.failure(24, 0), ShowDesk.BAD);
+        due("no more", x.failure(24, 0), BAD);
         due("passed by", x.listener(last, 7) + x.listener(after, 7), 0);
         due("the act is done", x.meter(0), 4);
         due("value", x.value(), 4);

@@ -1,5 +1,5 @@
 /** Promises 1 (a new object), 2 kind, 3 scene, 4 close, 23 under, 24 count. */
-public final class KindsAndScenesTest {
+public final class KindsAndScenesTest extends Desks {
     private static final Check CHECK = new Check("KindsAndScenesTest");
 
     public static void main(String[] args) {
@@ -21,33 +21,33 @@ public final class KindsAndScenesTest {
     private static void aNewObject() {
         ShowDesk x = new ShowDesk();
         for (int what = 0; what <= 5; what++) due("new count " + what, x.count(what), 0);
-        for (int t = 0; t < 8; t++) due("new cells " + t, x.cells(t), ShowDesk.NONE);
+        for (int t = 0; t < 8; t++) due("new cells " + t, x.cells(t), NO);
         for (int what = 0; what <= 6; what++) due("new told " + what, x.told(what), 0);
-        due("new told 7", x.told(7), ShowDesk.NONE);
+        due("new told 7", x.told(7), NO);
         due("new value", x.value(), 0);
         due("new logged", x.logged(0), 0);
-        due("new failure", x.failure(0, 0), ShowDesk.BAD);
+        due("new failure", x.failure(0, 0), BAD);
         due("new meter", x.meter(0), 0);
-        due("new listener", x.listener(0, 0), ShowDesk.BAD);
-        due("new turn", x.turn(0, 0, 0), ShowDesk.BAD);
-        due("new under", x.under(0, 0), ShowDesk.BAD);
+        due("new listener", x.listener(0, 0), BAD);
+        due("new turn", x.turn(0, 0, 0), BAD);
+        due("new under", x.under(0, 0), BAD);
         due("new back", x.back(50), 0);
-        due("new send", x.send(0, 1), ShowDesk.BAD);
-        due("new close", x.close(0), ShowDesk.BAD);
-        due("new listen", x.listen(0, 0, 0, ShowDesk.NONE), ShowDesk.BAD);
+        due("new send", x.send(0, 1), BAD);
+        due("new close", x.close(0), BAD);
+        due("new listen", x.listen(0, 0, 0, NO), BAD);
     }
 
     private static void kindsUnderOneAnother() {
         ShowDesk x = new ShowDesk();
-        due("first kind", x.kind(ShowDesk.NONE), 0);
+        due("first kind", x.kind(NO), 0);
         due("under it", x.kind(0), 1);
         due("under that", x.kind(1), 2);
         due("beside it", x.kind(0), 3);
-        due("another root", x.kind(ShowDesk.NONE), 4);
-        due("under one to come", x.kind(5), ShowDesk.BAD);
-        due("under -1", x.kind(-1), ShowDesk.BAD);
-        due("under -5", x.kind(-5), ShowDesk.BAD);
-        due("under the least int", x.kind(Integer.MIN_VALUE), ShowDesk.BAD);
+        due("another root", x.kind(NO), 4);
+        due("under one to come", x.kind(5), BAD);
+        due("under -1", x.kind(-1), BAD);
+        due("under -5", x.kind(-5), BAD);
+        due("under the least int", x.kind(Integer.MIN_VALUE), BAD);
         due("refused ones are not counted", x.count(0), 5);
         due("itself", x.under(2, 2), 1);
         due("one above", x.under(2, 1), 1);
@@ -55,19 +55,19 @@ public final class KindsAndScenesTest {
         due("the other way", x.under(0, 2), 0);
         due("a sibling's child", x.under(2, 3), 0);
         due("another tree", x.under(4, 0), 0);
-        due("under of no kind", x.under(5, 0), ShowDesk.BAD);
-        due("under of no other kind", x.under(0, 5), ShowDesk.BAD);
-        due("under NONE", x.under(0, ShowDesk.NONE), ShowDesk.BAD);
-        due("under of -1", x.under(-1, 0), ShowDesk.BAD);
+        due("under of no kind", x.under(5, 0), BAD);
+        due("under of no other kind", x.under(0, 5), BAD);
+        due("under NONE", x.under(0, NO), BAD);
+        due("under of -1", x.under(-1, 0), BAD);
     }
 
     private static void elevenKindsInALine() {
         ShowDesk x = new ShowDesk();
-        x.kind(ShowDesk.NONE);
+        x.kind(NO);
         for (int i = 1; i <= 10; i++) due("kind with " + i + " above", x.kind(i - 1), i);
-        due("kind with 11 above", x.kind(10), ShowDesk.STATE);
+        due("kind with 11 above", x.kind(10), STATE);
         due("kind with 10 above, beside", x.kind(9), 11);
-        due("under the eleventh too", x.kind(11), ShowDesk.STATE);
+        due("under the eleventh too", x.kind(11), STATE);
         due("the deepest is under the first", x.under(11, 0), 1);
         due("the deepest two are not under one another", x.under(11, 10), 0);
         due("counted", x.count(0), 12);
@@ -75,9 +75,9 @@ public final class KindsAndScenesTest {
 
     private static void fortyKinds() {
         ShowDesk x = new ShowDesk();
-        for (int i = 0; i < 40; i++) due("kind " + i, x.kind(ShowDesk.NONE), i);
-        due("kind 41", x.kind(ShowDesk.NONE), ShowDesk.FULL);
-        due("kind 41 under the last", x.kind(39), ShowDesk.FULL);
+        for (int i = 0; i < 40; i++) due("kind " + i, x.kind(NO), i);
+        due("kind 41", x.kind(NO), FULL);
+        due("kind 41 under the last", x.kind(39), FULL);
         due("the last hears itself", x.under(39, 39), 1);
         due("the last is not under number 7", x.under(39, 7), 0);
         due("the last tells", x.send(39, 3), 1);
@@ -87,35 +87,35 @@ public final class KindsAndScenesTest {
 
     private static void refusalsOfKindInOrder() {
         ShowDesk x = new ShowDesk();
-        x.kind(ShowDesk.NONE);
-        for (int i = 1; i < 40; i++) x.kind(i <= 10 ? i - 1 : ShowDesk.NONE);
-        due("BAD ahead of FULL", x.kind(40), ShowDesk.BAD);
-        due("STATE ahead of FULL", x.kind(10), ShowDesk.STATE);
-        due("FULL", x.kind(9), ShowDesk.FULL);
+        x.kind(NO);
+        for (int i = 1; i < 40; i++) x.kind(i <= 10 ? i - 1 : NO);
+        due("BAD ahead of FULL", x.kind(40), BAD);
+        due("STATE ahead of FULL", x.kind(10), STATE);
+        due("FULL", x.kind(9), FULL);
     }
 
     private static void scenes() {
         ShowDesk x = new ShowDesk();
         for (int i = 0; i < 30; i++) due("scene " + i, x.scene(), i);
-        due("scene 31", x.scene(), ShowDesk.FULL);
+        due("scene 31", x.scene(), FULL);
         due("close one", x.close(29), 0);
-        due("close it again", x.close(29), ShowDesk.STATE);
-        due("its number is used up", x.scene(), ShowDesk.FULL);
-        due("close one that never was", x.close(30), ShowDesk.BAD);
-        due("close -1", x.close(-1), ShowDesk.BAD);
-        due("close NONE", x.close(ShowDesk.NONE), ShowDesk.BAD);
+        due("close it again", x.close(29), STATE);
+        due("its number is used up", x.scene(), FULL);
+        due("close one that never was", x.close(30), BAD);
+        due("close -1", x.close(-1), BAD);
+        due("close NONE", x.close(NO), BAD);
         due("ever", x.count(1), 30);
         due("open", x.count(2), 29);
     }
 
     private static void closedScenesTakeTheirListeners() {
         ShowDesk x = new ShowDesk();
-        x.kind(ShowDesk.NONE);
+        x.kind(NO);
         x.scene();
         x.scene();
         for (int i = 0; i < 3; i++) x.listen(0, i, 0, 0);
         x.listen(0, 0, 0, 1);
-        x.listen(0, 0, 0, ShowDesk.NONE);
+        x.listen(0, 0, 0, NO);
         x.leave(1);
         due("those that had gone do not go again", x.close(0), 2);
         due("gone", x.listener(0, 0), 0);
@@ -131,13 +131,13 @@ public final class KindsAndScenesTest {
 
     private static void counts() {
         ShowDesk x = new ShowDesk();
-        x.kind(ShowDesk.NONE);
+        x.kind(NO);
         x.kind(0);
         x.scene();
         x.scene();
         x.scene();
         x.close(1);
-        for (int i = 0; i < 5; i++) x.listen(0, 0, 0, ShowDesk.NONE);
+        for (int i = 0; i < 5; i++) x.listen(0, 0, 0, NO);
         x.leave(4);
         x.send(0, 1);
         due("kinds", x.count(0), 2);
@@ -146,7 +146,7 @@ public final class KindsAndScenesTest {
         due("listeners ever", x.count(3), 5);
         due("listeners there", x.count(4), 4);
         due("acts", x.count(5), 1);
-        due("count 6", x.count(6), ShowDesk.BAD);
-        due("count -1", x.count(-1), ShowDesk.BAD);
+        due("count 6", x.count(6), BAD);
+        due("count -1", x.count(-1), BAD);
     }
 }

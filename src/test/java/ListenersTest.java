@@ -1,7 +1,6 @@
 /** Promises 5 listen, 6 filter, 7 once, 8 step, 9 leave, 21 listener, 22 turn. */
-public final class ListenersTest {
+public final class ListenersTest extends Desks {
     private static final Check CHECK = new Check("ListenersTest");
-    private static final int NO = ShowDesk.NONE;
 
     public static void main(String[] args) {
         listening();
@@ -21,54 +20,48 @@ public final class ListenersTest {
         CHECK.due(what, got, want);
     }
 
-    private static ShowDesk desk(int kinds) {
-        ShowDesk x = new ShowDesk();
-        for (int i = 0; i < kinds; i++) x.kind(i == 0 ? NO : i - 1);
-        return x;
-    }
-
     private static void listening() {
-        ShowDesk x = desk(2);
+        ShowDesk x = line(2);
         x.scene();
         x.scene();
         x.close(1);
         due("before", x.listen(0, 0, 5, NO), 0);
         due("at, least rank", x.listen(1, 1, Integer.MIN_VALUE, 0), 1);
         due("after, greatest rank", x.listen(1, 2, Integer.MAX_VALUE, NO), 2);
-        due("no kind", x.listen(2, 0, 0, NO), ShowDesk.BAD);
-        due("kind -1", x.listen(-1, 0, 0, NO), ShowDesk.BAD);
-        due("kind NONE", x.listen(NO, 0, 0, NO), ShowDesk.BAD);
-        due("phase 3", x.listen(0, 3, 0, NO), ShowDesk.BAD);
-        due("phase -1", x.listen(0, -1, 0, NO), ShowDesk.BAD);
-        due("scene to come", x.listen(0, 0, 0, 2), ShowDesk.BAD);
-        due("scene -1", x.listen(0, 0, 0, -1), ShowDesk.BAD);
-        due("closed scene", x.listen(0, 0, 0, 1), ShowDesk.STATE);
-        due("a bad phase ahead of a closed scene", x.listen(0, 3, 0, 1), ShowDesk.BAD);
+        due("no kind", x.listen(2, 0, 0, NO), BAD);
+        due("kind -1", x.listen(-1, 0, 0, NO), BAD);
+        due("kind NONE", x.listen(NO, 0, 0, NO), BAD);
+        due("phase 3", x.listen(0, 3, 0, NO), BAD);
+        due("phase -1", x.listen(0, -1, 0, NO), BAD);
+        due("scene to come", x.listen(0, 0, 0, 2), BAD);
+        due("scene -1", x.listen(0, 0, 0, -1), BAD);
+        due("closed scene", x.listen(0, 0, 0, 1), STATE);
+        due("a bad phase ahead of a closed scene", x.listen(0, 3, 0, 1), BAD);
         due("ever", x.count(3), 3);
         due("there", x.count(4), 3);
     }
 
     private static void twoHundredListeners() {
-        ShowDesk x = desk(1);
+        ShowDesk x = line(1);
         for (int i = 0; i < 200; i++) due("listener " + i, x.listen(0, i % 3, -i, NO), i);
-        due("number 201", x.listen(0, 0, 0, NO), ShowDesk.FULL);
+        due("number 201", x.listen(0, 0, 0, NO), FULL);
         due("one leaves", x.leave(0), 1);
-        due("its number is used up", x.listen(0, 0, 0, NO), ShowDesk.FULL);
+        due("its number is used up", x.listen(0, 0, 0, NO), FULL);
         due("all the others are told", x.send(0, 1), 1);
         due("how many", x.told(2), 199);
         due("the last", x.listener(199, 0), 1);
-        due("there is no number 200", x.listener(200, 0), ShowDesk.BAD);
-        due("nor can it leave", x.leave(200), ShowDesk.BAD);
+        due("there is no number 200", x.listener(200, 0), BAD);
+        due("nor can it leave", x.leave(200), BAD);
     }
 
     private static void refusalsOfListenInOrder() {
-        ShowDesk x = desk(1);
+        ShowDesk x = line(1);
         x.scene();
         x.close(0);
         for (int i = 0; i < 200; i++) x.listen(0, 0, 0, NO);
-        due("BAD ahead of FULL", x.listen(1, 0, 0, NO), ShowDesk.BAD);
-        due("STATE ahead of FULL", x.listen(0, 0, 0, 0), ShowDesk.STATE);
-        due("FULL", x.listen(0, 0, 0, NO), ShowDesk.FULL);
+        due("BAD ahead of FULL", x.listen(1, 0, 0, NO), BAD);
+        due("STATE ahead of FULL", x.listen(0, 0, 0, 0), STATE);
+        due("FULL", x.listen(0, 0, 0, NO), FULL);
     }
 
     private static int toldWith(ShowDesk x, long v) {
@@ -77,7 +70,7 @@ public final class ListenersTest {
     }
 
     private static void filters() {
-        ShowDesk x = desk(1);
+        ShowDesk x = line(1);
         x.listen(0, 0, 0, NO);
         due("all longs at first, least", toldWith(x, Long.MIN_VALUE), 1);
         due("all longs at first, greatest", toldWith(x, Long.MAX_VALUE), 1);
@@ -86,20 +79,20 @@ public final class ListenersTest {
         due("low", toldWith(x, -3), 1);
         due("high", toldWith(x, 5), 1);
         due("above", toldWith(x, 6), 0);
-        due("high below low", x.filter(0, 5, 4), ShowDesk.BAD);
+        due("high below low", x.filter(0, 5, 4), BAD);
         due("the refused filter is not taken", toldWith(x, 0), 1);
         due("of one value", x.filter(0, 1L << 40, 1L << 40), 1);
         due("that value", toldWith(x, 1L << 40), 1);
         due("another with like lowest bits", toldWith(x, 0), 0);
-        due("no listener", x.filter(1, 0, 1), ShowDesk.BAD);
-        due("listener -1", x.filter(-1, 0, 1), ShowDesk.BAD);
+        due("no listener", x.filter(1, 0, 1), BAD);
+        due("listener -1", x.filter(-1, 0, 1), BAD);
         x.leave(0);
-        due("gone", x.filter(0, 0, 1), ShowDesk.STATE);
-        due("BAD ahead of STATE", x.filter(0, 1, 0), ShowDesk.BAD);
+        due("gone", x.filter(0, 0, 1), STATE);
+        due("BAD ahead of STATE", x.filter(0, 1, 0), BAD);
     }
 
     private static void onceOnly() {
-        ShowDesk x = desk(1);
+        ShowDesk x = line(1);
         x.listen(0, 0, 0, NO);
         due("not at first", x.once(0, false), 0);
         due("nor then", x.once(0, true), 0);
@@ -114,58 +107,58 @@ public final class ListenersTest {
         due("told once", toldWith(x, 5), 1);
         due("gone", x.listener(0, 0), 0);
         due("not again", toldWith(x, 5), 0);
-        due("once of one that has gone", x.once(0, false), ShowDesk.STATE);
-        due("once of none", x.once(1, true), ShowDesk.BAD);
-        due("once of -1", x.once(-1, true), ShowDesk.BAD);
+        due("once of one that has gone", x.once(0, false), STATE);
+        due("once of none", x.once(1, true), BAD);
+        due("once of -1", x.once(-1, true), BAD);
     }
 
     private static void steps() {
-        ShowDesk x = desk(1);
+        ShowDesk x = line(1);
         x.listen(0, 0, 0, NO);
         for (int op = -1; op <= 18; op++) {
             if (op >= 0 && op <= 17) continue;
-            due("op " + op, x.step(0, op, 1), ShowDesk.BAD);
+            due("op " + op, x.step(0, op, 1), BAD);
         }
-        due("failure 19", x.step(0, 3, 19), ShowDesk.BAD);
-        due("failure 30", x.step(0, 3, 30), ShowDesk.BAD);
+        due("failure 19", x.step(0, 3, 19), BAD);
+        due("failure 30", x.step(0, 3, 30), BAD);
         due("failure 20", x.step(0, 3, 20), 1);
         due("failure 29", x.step(0, 3, 29), 2);
         due("other ops take any n", x.step(0, 0, Integer.MIN_VALUE), 3);
         due("n of 17", x.step(0, 17, 99), 4);
-        due("no listener", x.step(1, 0, 0), ShowDesk.BAD);
-        due("listener -1", x.step(-1, 0, 0), ShowDesk.BAD);
+        due("no listener", x.step(1, 0, 0), BAD);
+        due("listener -1", x.step(-1, 0, 0), BAD);
         for (int i = 5; i <= 10; i++) due("step " + i, x.step(0, 1, i), i);
-        due("step 11", x.step(0, 1, 0), ShowDesk.FULL);
-        due("BAD ahead of FULL", x.step(0, 18, 0), ShowDesk.BAD);
+        due("step 11", x.step(0, 1, 0), FULL);
+        due("BAD ahead of FULL", x.step(0, 18, 0), BAD);
         due("how many", x.listener(0, 5), 10);
         x.leave(0);
-        due("STATE ahead of FULL", x.step(0, 1, 0), ShowDesk.STATE);
-        due("BAD ahead of STATE", x.step(0, 3, 1), ShowDesk.BAD);
+        due("STATE ahead of FULL", x.step(0, 1, 0), STATE);
+        due("BAD ahead of STATE", x.step(0, 3, 1), BAD);
         everyOpIsTaken();
     }
 
     private static void everyOpIsTaken() {
-        ShowDesk x = desk(1);
+        ShowDesk x = line(1);
         x.listen(0, 0, 0, NO);
         x.listen(0, 0, 0, NO);
         for (int op = 0; op <= 17; op++) due("op " + op, x.step(op / 9, op, 25), op % 9 + 1);
     }
 
     private static void leaving() {
-        ShowDesk x = desk(1);
+        ShowDesk x = line(1);
         x.listen(0, 0, 0, NO);
         x.listen(0, 0, 0, NO);
         due("leave", x.leave(0), 1);
-        due("leave again", x.leave(0), ShowDesk.STATE);
-        due("leave of none", x.leave(2), ShowDesk.BAD);
-        due("leave -1", x.leave(-1), ShowDesk.BAD);
+        due("leave again", x.leave(0), STATE);
+        due("leave of none", x.leave(2), BAD);
+        due("leave -1", x.leave(-1), BAD);
         due("there", x.count(4), 1);
         due("told", toldWith(x, 1), 1);
         due("the gone one was not", x.listener(0, 7), 0);
     }
 
     private static void whatAListenerIs() {
-        ShowDesk x = desk(2);
+        ShowDesk x = line(2);
         x.scene();
         x.listen(1, 2, -7, 0);
         x.listen(0, 1, 8, NO);
@@ -180,14 +173,14 @@ public final class ListenersTest {
         for (int what = 0; what <= 8; what++) due("listener 0 then, " + what, x.listener(0, what), then[what]);
         long[] other = {1, 0, 1, 8, NO, 0, 0, 2, 0};
         for (int what = 0; what <= 8; what++) due("listener 1, " + what, x.listener(1, what), other[what]);
-        due("what 9", x.listener(0, 9), ShowDesk.BAD);
-        due("what -1", x.listener(0, -1), ShowDesk.BAD);
-        due("no listener", x.listener(2, 0), ShowDesk.BAD);
-        due("listener -1", x.listener(-1, 0), ShowDesk.BAD);
+        due("what 9", x.listener(0, 9), BAD);
+        due("what -1", x.listener(0, -1), BAD);
+        due("no listener", x.listener(2, 0), BAD);
+        due("listener -1", x.listener(-1, 0), BAD);
     }
 
     private static void turnsByRankNearnessAndNumber() {
-        ShowDesk x = desk(3);
+        ShowDesk x = line(3);
         x.kind(0);
         x.listen(0, 1, 5, NO);
         x.listen(1, 1, 5, NO);
@@ -204,10 +197,10 @@ public final class ListenersTest {
         dueTurns(x, 3, 1, 8, 7, 4, 0);
         dueTurns(x, 2, 0);
         dueTurns(x, 2, 2);
-        due("no kind", x.turn(4, 1, 0), ShowDesk.BAD);
-        due("kind -1", x.turn(-1, 1, 0), ShowDesk.BAD);
-        due("phase 3", x.turn(0, 3, 0), ShowDesk.BAD);
-        due("phase -1", x.turn(0, -1, 0), ShowDesk.BAD);
+        due("no kind", x.turn(4, 1, 0), BAD);
+        due("kind -1", x.turn(-1, 1, 0), BAD);
+        due("phase 3", x.turn(0, 3, 0), BAD);
+        due("phase -1", x.turn(0, -1, 0), BAD);
         due("a cue keeps to the order", x.send(2, 0), 1);
         due("all told", x.told(2), 8);
     }
@@ -223,7 +216,7 @@ public final class ListenersTest {
     }
 
     private static void turnsOfThoseThatAreThere() {
-        ShowDesk x = desk(1);
+        ShowDesk x = line(1);
         x.scene();
         for (int i = 0; i < 4; i++) x.listen(0, 0, i, i == 1 ? 0 : NO);
         x.filter(2, 7, 7);

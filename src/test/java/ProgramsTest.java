@@ -1,9 +1,6 @@
 /** Parts 2 and 3 of the Terms: programs that add and take away listeners, close scenes and send other cues. */
-public final class ProgramsTest {
+public final class ProgramsTest extends Desks {
     private static final Check CHECK = new Check("ProgramsTest");
-    private static final int NO = ShowDesk.NONE;
-    private static final int BEFORE = 0, AT = 1, AFTER = 2;
-    private static final int NULL = 1, ROOM = 6, DEEP = 7, MANY = 9;
 
     public static void main(String[] args) {
         onceGoesAheadOfItsProgram();
@@ -27,22 +24,6 @@ public final class ProgramsTest {
         CHECK.due(what, got, want);
     }
 
-    private static ShowDesk desk(int roots) {
-        ShowDesk x = new ShowDesk();
-        for (int i = 0; i < roots; i++) x.kind(NO);
-        return x;
-    }
-
-    private static int add(ShowDesk x, int kind, int phase, int rank, int... program) {
-        return addIn(x, NO, kind, phase, rank, program);
-    }
-
-    private static int addIn(ShowDesk x, int scene, int kind, int phase, int rank, int... program) {
-        int listener = x.listen(kind, phase, rank, scene);
-        for (int i = 0; i < program.length; i += 2) x.step(listener, program[i], program[i + 1]);
-        return listener;
-    }
-
     private static void dueFailure(ShowDesk x, int i, int what, int listener, int step) {
         due("failure " + i + ": what", x.failure(i, 0), what);
         due("failure " + i + ": listener", x.failure(i, 1), listener);
@@ -50,13 +31,13 @@ public final class ProgramsTest {
     }
 
     private static void onceGoesAheadOfItsProgram() {
-        ShowDesk x = desk(1);
+        ShowDesk x = roots(1);
         int l = add(x, 0, AT, 0, 0, 1, 11, 0, 0, 10);
         x.once(l, true);
         due("it does not hear its own cue", x.send(0, 0), 2);
         due("its program goes on", x.value(), 11);
         due("told", x.listener(l, 7), 1);
-        x = desk(1);
+        x = roots(1);
         l = add(x, 0, AT, 0, 10, 0);
         x.once(l, true);
         x.send(0, 0);
@@ -64,7 +45,7 @@ public final class ProgramsTest {
     }
 
     private static void comersHaveNoTurnInThePhase() {
-        ShowDesk x = desk(1);
+        ShowDesk x = roots(1);
         int copier = add(x, 0, AT, 5, 9, 1);
         add(x, 0, AT, 5, 0, 1);
         due("copier", copier, 0);
@@ -73,7 +54,7 @@ public final class ProgramsTest {
         due("come", x.count(3), 3);
         x.send(0, 0);
         due("told now", x.value(), 2);
-        x = desk(1);
+        x = roots(1);
         add(x, 0, BEFORE, 5, 9, 1);
         add(x, 0, AFTER, 5, 0, 1);
         x.send(0, 0);
@@ -81,7 +62,7 @@ public final class ProgramsTest {
     }
 
     private static void comersAreLikeTheirModel() {
-        ShowDesk x = desk(2);
+        ShowDesk x = roots(2);
         x.scene();
         int model = addIn(x, 0, 1, AFTER, -9, 16, 5, 0, 7);
         x.filter(model, 3, 4);
@@ -110,7 +91,7 @@ public final class ProgramsTest {
     }
 
     private static void comersRefused() {
-        ShowDesk x = desk(1);
+        ShowDesk x = roots(1);
         x.scene();
         addIn(x, 0, 0, BEFORE, 0);
         add(x, 0, AT, 9, 9, 4);
@@ -122,7 +103,7 @@ public final class ProgramsTest {
         dueFailure(x, 1, NULL, 2, 0);
         dueFailure(x, 2, NULL, 3, 0);
         due("none came", x.count(3), 4);
-        x = desk(1);
+        x = roots(1);
         int half = add(x, 0, AT, 0, 9, 0, 9, 0);
         for (int i = 0; i < 198; i++) x.listen(0, BEFORE, 0, NO);
         x.send(0, 0);
@@ -136,7 +117,7 @@ public final class ProgramsTest {
     }
 
     private static void takingAway() {
-        ShowDesk x = desk(1);
+        ShowDesk x = roots(1);
         add(x, 0, AT, 9, 10, 1, 10, 0, 0, 5);
         add(x, 0, AT, 8, 0, 100);
         add(x, 0, AT, 7, 10, 1);
@@ -154,7 +135,7 @@ public final class ProgramsTest {
     }
 
     private static void closingScenes() {
-        ShowDesk x = desk(1);
+        ShowDesk x = roots(1);
         x.scene();
         x.scene();
         addIn(x, 1, 0, AT, 9, 13, 1, 0, 1, 13, 1);
@@ -171,11 +152,11 @@ public final class ProgramsTest {
         due("value", x.value(), 1000);
         due("none is there", x.count(4), 0);
         due("no scene is open", x.count(2), 0);
-        due("it is closed", x.close(1), ShowDesk.STATE);
+        due("it is closed", x.close(1), STATE);
     }
 
     private static void cuesWithin() {
-        ShowDesk x = desk(2);
+        ShowDesk x = roots(2);
         add(x, 0, AT, 5, 0, 1, 11, 1, 8, 0);
         add(x, 1, BEFORE, 5, 0, 10);
         add(x, 1, AFTER, 5, 0, 100);
@@ -191,7 +172,7 @@ public final class ProgramsTest {
     }
 
     private static void cuesWithinThatAreVetoed() {
-        ShowDesk x = desk(2);
+        ShowDesk x = roots(2);
         add(x, 0, BEFORE, 5, 0, 1, 11, 1, 0, 1000);
         add(x, 1, BEFORE, 6, 0, 10);
         int vetoer = add(x, 1, BEFORE, 5, 2, 0);
@@ -208,7 +189,7 @@ public final class ProgramsTest {
     }
 
     private static void cuesWithinRefused() {
-        ShowDesk x = desk(2);
+        ShowDesk x = roots(2);
         add(x, 0, AT, 5, 11, 2);
         add(x, 0, AT, 4, 11, -1);
         add(x, 0, AT, 3, 12, 2);
@@ -218,7 +199,7 @@ public final class ProgramsTest {
     }
 
     private static void twelveDeep() {
-        ShowDesk x = desk(1);
+        ShowDesk x = roots(1);
         add(x, 0, AT, 0, 0, 1, 11, 0);
         due("cues", x.send(0, 0), 12);
         due("at once", x.told(6), 12);
@@ -234,7 +215,7 @@ public final class ProgramsTest {
     }
 
     private static void cuesForLater() {
-        ShowDesk x = desk(3);
+        ShowDesk x = roots(3);
         add(x, 0, BEFORE, 0, 8, 0, 12, 1, 0, 5, 12, 2, 0, 100, 11, 2, 8, 0);
         add(x, 1, AT, 0, 1, 7, 8, 0, 12, 2);
         add(x, 2, AT, 0, 8, 0);
@@ -246,7 +227,7 @@ public final class ProgramsTest {
         due("at once", x.told(6), 2);
         due("meters", x.meter(1), 1);
         due("and", x.meter(2), 106 + 6 + 7);
-        x = desk(2);
+        x = roots(2);
         add(x, 0, BEFORE, 0, 12, 1, 2, 0);
         add(x, 1, BEFORE, 0, 2, 0);
         due("a vetoed cue's later ones are told", x.send(0, 9), 2);
@@ -263,7 +244,7 @@ public final class ProgramsTest {
     }
 
     private static void fortyWait() {
-        ShowDesk x = desk(2);
+        ShowDesk x = roots(2);
         for (int i = 0; i < 4; i++) add(x, 0, AT, -i, 12, 1, 12, 1, 12, 1, 12, 1, 12, 1, 12, 1, 12, 1, 12, 1, 12, 1, 12, 1);
         due("40 wait", x.send(0, 1), 41);
         due("no failures", x.told(4), 0);
@@ -277,7 +258,7 @@ public final class ProgramsTest {
     }
 
     private static void sixtyCues() {
-        ShowDesk x = desk(2);
+        ShowDesk x = roots(2);
         add(x, 0, AFTER, 0, 8, 0, 0, 1, 12, 0);
         due("60", x.send(0, 0), 60);
         due("told", x.told(1), 60);
@@ -303,17 +284,17 @@ public final class ProgramsTest {
     }
 
     private static void failuresAfterTheHush() {
-        ShowDesk x = desk(1);
+        ShowDesk x = roots(1);
         add(x, 0, AT, 0, 11, 0, 3, 27);
         for (int i = 0; i < 24; i++) add(x, 0, AFTER, 0, 3, 20);
         due("cues", x.send(0, 0), 12);
         dueFailure(x, 0, DEEP, 0, 0);
         for (int i = 1; i < 24; i++) dueFailure(x, i, 20, i, 0);
         for (int i = 24; i < 35; i++) dueFailure(x, i, 27, 0, 1);
-        due("no failure 35", x.failure(35, 0), ShowDesk.BAD);
+        due("no failure 35", x.failure(35, 0), BAD);
         due("failures", x.told(4), 35);
         due("told", x.told(2), 12 + 23);
-        x = desk(3);
+        x = roots(3);
         add(x, 0, AT, 0, 11, 1, 0, 5, 11, 2, 8, 0);
         for (int i = 0; i < 24; i++) add(x, 1, AT, 0, 3, 20);
         add(x, 2, BEFORE, 0, 0, 100);

@@ -1,7 +1,6 @@
 /** Promises 10 tray, 11 lay, 12 cell, 13 cells, and the steps 14 to 17 that touch trays. */
-public final class TraysTest {
+public final class TraysTest extends Desks {
     private static final Check CHECK = new Check("TraysTest");
-    private static final int NO = ShowDesk.NONE;
 
     public static void main(String[] args) {
         newRows();
@@ -23,21 +22,21 @@ public final class TraysTest {
         due("16 bytes", x.tray(0, 0, 16), 16);
         due("no ints", x.tray(7, 1, 0), 0);
         due("2 longs", x.tray(3, 2, 2), 2);
-        due("17", x.tray(0, 0, 17), ShowDesk.BAD);
+        due("17", x.tray(0, 0, 17), BAD);
         due("-1", x.tray(0, 0, -1), -14);
         due("the least int", x.tray(0, 0, Integer.MIN_VALUE), -14);
-        due("tray 8", x.tray(8, 0, 1), ShowDesk.BAD);
-        due("tray -1", x.tray(-1, 0, 1), ShowDesk.BAD);
-        due("lane 3", x.tray(0, 3, 1), ShowDesk.BAD);
-        due("lane -1", x.tray(0, -1, 1), ShowDesk.BAD);
-        due("BAD ahead of SIZE, tray", x.tray(8, 0, -1), ShowDesk.BAD);
-        due("BAD ahead of SIZE, lane", x.tray(0, 3, -1), ShowDesk.BAD);
+        due("tray 8", x.tray(8, 0, 1), BAD);
+        due("tray -1", x.tray(-1, 0, 1), BAD);
+        due("lane 3", x.tray(0, 3, 1), BAD);
+        due("lane -1", x.tray(0, -1, 1), BAD);
+        due("BAD ahead of SIZE, tray", x.tray(8, 0, -1), BAD);
+        due("BAD ahead of SIZE, lane", x.tray(0, 3, -1), BAD);
         due("cells 0", x.cells(0), 16);
         due("cells 7", x.cells(7), 0);
         due("cells 3", x.cells(3), 2);
         due("cells of nothing", x.cells(1), NO);
-        due("cells 8", x.cells(8), ShowDesk.BAD);
-        due("cells -1", x.cells(-1), ShowDesk.BAD);
+        due("cells 8", x.cells(8), BAD);
+        due("cells -1", x.cells(-1), BAD);
         x.lay(3, 1, 9);
         x.tray(3, 2, 1);
         due("a shorter row", x.cells(3), 1);
@@ -74,8 +73,8 @@ public final class TraysTest {
         due("index 3", x.lay(2, 3, 1), -12);
         due("index -1", x.lay(2, -1, 1), -12);
         due("no cells", x.lay(4, 0, 1), -12);
-        due("tray 8", x.lay(8, 0, 1), ShowDesk.BAD);
-        due("tray -1", x.lay(-1, 0, 1), ShowDesk.BAD);
+        due("tray 8", x.lay(8, 0, 1), BAD);
+        due("tray -1", x.lay(-1, 0, 1), BAD);
         due("cell of nothing", x.cell(0, 0), 0);
         due("cell 3", x.cell(2, 3), 0);
         due("cell -1", x.cell(2, -1), 0);
