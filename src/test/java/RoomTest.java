@@ -4,9 +4,11 @@ import java.lang.management.ManagementFactory;
 /** The room of a run: a desk is small, and calls make nothing but kinds and listeners. */
 public final class RoomTest {
     private static final ThreadMXBean THREADS = (ThreadMXBean) ManagementFactory.getThreadMXBean();
-    // Far above what asking for the number makes itself, far below one row for each of some hundred calls.
+    // Far above what asking for the number makes itself, far below one small object for each call.
     private static final long LITTLE = 2000;
-    private static final int CALLS = 512;
+    private static final int DESKS = 20;
+    // Five calls each: with those that fill the desk they are 512 at most.
+    private static final int ROUNDS = 29;
 
     private static long answers;
 
@@ -15,11 +17,14 @@ public final class RoomTest {
         measureDesks(10);
         long desks = measureDesks(100) / 100;
         check.due("bytes of a new desk, or 16384", Math.max(16384, desks), 16384);
-        ShowDesk full = fullDesk();
-        measureCalls(full, 8);
-        long calls = measureCalls(full, CALLS);
-        check.due("bytes of " + CALLS + " dear calls, or " + LITTLE, Math.max(LITTLE, calls), LITTLE);
-        check.due("cues of a dear send", full.told(1), 60);
+        ShowDesk[] full = new ShowDesk[DESKS];
+        for (int i = 0; i < DESKS; i++) full[i] = fullDesk();
+        makeDearCalls(fullDesk());
+        long ahead = THREADS.getCurrentThreadAllocatedBytes();
+        for (ShowDesk x : full) makeDearCalls(x);
+        long calls = THREADS.getCurrentThreadAllocatedBytes() - ahead;
+        check.due("bytes of dear calls, or " + LITTLE, Math.max(LITTLE, calls), LITTLE);
+        check.due("cues of a dear send", full[0].told(1), 60);
         check.end();
     }
 
@@ -43,13 +48,11 @@ public final class RoomTest {
         return x;
     }
 
-    private static long measureCalls(ShowDesk x, int many) {
-        long ahead = THREADS.getCurrentThreadAllocatedBytes();
-        for (int i = 0; i < many; i++) {
+    private static void makeDearCalls(ShowDesk x) {
+        for (int i = 0; i < ROUNDS; i++) {
             answers += x.turn(0, 1, i);
             answers += x.tray(i % 8, i % 3, i % 17);
             answers += x.send(0, i) + x.back(i % 51) + x.failure(i, 0);
         }
-        return THREADS.getCurrentThreadAllocatedBytes() - ahead;
     }
 }
