@@ -36,15 +36,15 @@ public final class ShowDesk {
     // What a step leads to when it is no failure; failures are all above 0.
     private static final int GO_ON = 0, PASS_OVER = -1, ENDED = -2, VETOED = -3;
 
-    private final Kinds kinds = new Kinds();
-    private final House house = new House();
-    private final Tray[] trays = new Tray[MOST_TRAYS];
-    private final Acts acts = new Acts();
-    private final Report report = new Report();
-    private final Teller teller = new Teller(kinds, house, trays, acts, report);
+    // The teller makes the parts that it works on; the desk answers from the same ones.
+    private final Teller teller = new Teller();
+    private final Kinds kinds = teller.kinds;
+    private final House house = teller.house;
+    private final Tray[] trays = teller.trays;
+    private final Acts acts = teller.acts;
+    private final Report report = teller.report;
 
     public ShowDesk() {
-        for (int t = 0; t < MOST_TRAYS; t++) trays[t] = new Tray();
     }
 
     public int kind(int above) {
@@ -98,9 +98,7 @@ public final class ShowDesk {
         if (of == null || op < ADD || op > LAY_TRAY) return BAD;
         if (op == FAIL && (n < LEAST_OWN_FAILURE || n > GREATEST_OWN_FAILURE)) return BAD;
         if (!of.there) return STATE;
-        if (of.program.isFull()) return FULL;
-        of.program.add(op, n);
-        return of.program.size;
+        return of.program.add(op, n) ? of.program.size : FULL;
     }
 
     public int leave(int listener) {
@@ -279,15 +277,12 @@ public final class ShowDesk {
         final int[] numbers = new int[MOST_STEPS];
         int size;
 
-        boolean isFull() {
-            return size >= MOST_STEPS;
-        }
-
-        void add(int op, int n) {
-            if (isFull()) return;
+        boolean add(int op, int n) {
+            if (size >= MOST_STEPS) return false;
             ops[size] = op;
             numbers[size] = n;
             size++;
+            return true;
         }
 
         void takeOver(Program other) {
@@ -357,16 +352,12 @@ public final class ShowDesk {
             return come >= MOST_LISTENERS;
         }
 
+        // The newest has the greatest number, so it is linked behind all that are like it.
         void seat(Listener comer) {
             if (isFull() || !isPhase(comer.phase)) return;
             all[come] = comer;
             come++;
             there++;
-            link(comer);
-        }
-
-        // The newest has the greatest number, so it goes behind all that are like it.
-        private void link(Listener comer) {
             Listener ahead = null;
             Listener behind = firsts[comer.phase];
             while (behind != null && !comer.isAheadOf(behind)) {
@@ -427,7 +418,7 @@ public final class ShowDesk {
         }
 
         boolean isOpen(int scene) {
-            return hadScene(scene) && open[scene];
+            return scene >= 0 && scene < scenes && open[scene];
         }
 
         boolean admits(int scene) {
@@ -457,6 +448,13 @@ public final class ShowDesk {
             lane = newLane;
             size = newSize;
             for (int i = 0; i < newSize; i++) row[i] = 0L;
+        }
+
+        int layInts(int n) {
+            if (n < 0) return SIZE;
+            if (n > MOST_CELLS) return ROOM;
+            renew(INTS, n);
+            return GO_ON;
         }
 
         boolean hasCell(int i) {
@@ -558,16 +556,13 @@ public final class ShowDesk {
         private int first;
         int size;
 
-        boolean isFull() {
-            return size >= MOST_WAITING;
-        }
-
-        void add(Kind kind, long value) {
-            if (isFull()) return;
+        boolean add(Kind kind, long value) {
+            if (size >= MOST_WAITING) return false;
             int place = (first + size) % MOST_WAITING;
             of[place] = kind;
             values[place] = value;
             size++;
+            return true;
         }
 
         Kind firstKind() {
@@ -592,7 +587,6 @@ public final class ShowDesk {
     /** A cue that is being told, with the value of the program that is done for it now. */
     private static final class Cue {
         final int depth;
-        Kind kind;
         int phase;
         long value;
         long v;
@@ -602,8 +596,7 @@ public final class ShowDesk {
             this.depth = depth;
         }
 
-        void begin(Kind newKind, long newValue) {
-            kind = newKind;
+        void begin(long newValue) {
             value = newValue;
             vetoer = NONE;
         }
@@ -614,21 +607,17 @@ public final class ShowDesk {
     }
 
     private static final class Teller {
-        private final Kinds kinds;
-        private final House house;
-        private final Tray[] trays;
-        private final Acts acts;
-        private final Report report;
+        final Kinds kinds = new Kinds();
+        final House house = new House();
+        final Tray[] trays = new Tray[MOST_TRAYS];
+        final Acts acts = new Acts();
+        final Report report = new Report();
         private final Waiting waiting = new Waiting();
         // One for each depth, used again: a send makes no cues of its own.
         private final Cue[] cues = new Cue[MOST_DEEP];
 
-        Teller(Kinds kinds, House house, Tray[] trays, Acts acts, Report report) {
-            this.kinds = kinds;
-            this.house = house;
-            this.trays = trays;
-            this.acts = acts;
-            this.report = report;
+        Teller() {
+            for (int t = 0; t < MOST_TRAYS; t++) trays[t] = new Tray();
             for (int d = 0; d < MOST_DEEP; d++) cues[d] = new Cue(d + 1);
         }
 
@@ -650,22 +639,17 @@ public final class ShowDesk {
         }
 
         private void tell(Cue cue, Kind kind, long value) {
-            cue.begin(kind, value);
+            cue.begin(value);
             report.addCue(cue.depth);
-            tellPhase(cue, BEFORE);
-            if (cue.isVetoed()) return;
-            acts.make(kind, cue.value);
-            tellPhase(cue, AT);
-            tellPhase(cue, AFTER);
-        }
-
-        private void tellPhase(Cue cue, int phase) {
-            cue.phase = phase;
-            // Those that come while the phase is told have greater numbers, and no turn in it.
-            int comeBefore = house.come;
-            for (Listener at = house.findFirst(phase); at != null; at = at.next) {
-                if (cue.isVetoed() || report.isHushed()) return;
-                if (at.number < comeBefore && at.hears(cue.kind) && at.lets(cue.value)) tellListener(cue, at);
+            for (int phase = BEFORE; phase <= AFTER; phase++) {
+                if (phase == AT) acts.make(kind, cue.value);
+                cue.phase = phase;
+                // Those that come while the phase is told have greater numbers, and no turn in it.
+                int comeBefore = house.come;
+                for (Listener at = house.findFirst(phase); at != null && !report.isHushed(); at = at.next) {
+                    if (at.number < comeBefore && at.hears(kind) && at.lets(cue.value)) tellListener(cue, at);
+                    if (cue.isVetoed()) return;
+                }
             }
         }
 
@@ -756,9 +740,7 @@ public final class ShowDesk {
         private int tellLater(Cue cue, int n) {
             Kind kind = kinds.find(n);
             if (kind == null) return NULL;
-            if (waiting.isFull()) return ROOM;
-            waiting.add(kind, cue.v);
-            return GO_ON;
+            return waiting.add(kind, cue.v) ? GO_ON : ROOM;
         }
 
         private int closeScene(int n) {
@@ -768,44 +750,20 @@ public final class ShowDesk {
         }
 
         private int touchTray(Cue cue, Listener listener, int op, int n) {
+            if (op == CHOOSE_TRAY) return chooseTray(listener, n);
             Tray tray = findTray(trays, listener.trayNumber);
             if (tray == null) return NULL;
-            switch (op) {
-                case READ_CELL:
-                    return readCell(cue, tray, n);
-                case WRITE_CELL:
-                    return writeCell(cue, tray, n);
-                case CHOOSE_TRAY:
-                    return chooseTray(listener, n);
-                case LAY_TRAY:
-                    return layTray(tray, n);
-                default:
-                    return GO_ON;
-            }
-        }
-
-        private static int readCell(Cue cue, Tray tray, int i) {
-            int fault = tray.faultAsInts(i);
-            if (fault == GO_ON) cue.v = tray.row[i];
-            return fault;
-        }
-
-        private static int writeCell(Cue cue, Tray tray, int i) {
-            int fault = tray.faultAsInts(i);
-            if (fault == GO_ON) tray.put(i, cue.v);
-            return fault;
+            if (op == LAY_TRAY) return tray.layInts(n);
+            int fault = tray.faultAsInts(n);
+            if (fault != GO_ON) return fault;
+            if (op == READ_CELL) cue.v = tray.row[n];
+            if (op == WRITE_CELL) tray.put(n, cue.v);
+            return GO_ON;
         }
 
         private int chooseTray(Listener listener, int t) {
             if (findTray(trays, t) == null) return INDEX;
             listener.trayNumber = t;
-            return GO_ON;
-        }
-
-        private static int layTray(Tray tray, int n) {
-            if (n < 0) return SIZE;
-            if (n > MOST_CELLS) return ROOM;
-            tray.renew(INTS, n);
             return GO_ON;
         }
     }

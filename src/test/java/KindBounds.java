@@ -131,6 +131,8 @@ final class KindBounds extends Bounds {
         dueEach("close(#)", x::close, BAD, LEAST, -5, NO, -1, 2, 29, 30, MOST);
         due("count(2)", x.count(2), 2);
         due("close(1)", x.close(1), 0);
+        for (int i = 2; i < 30; i++) x.scene();
+        due("close(30) of 30", x.close(30), BAD);
     }
 
     private void closeState() {

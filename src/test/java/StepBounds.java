@@ -272,7 +272,7 @@ final class StepBounds extends Bounds {
     }
 
     private void closeNull() {
-        sentences.test("Terms", CLOSE, "NULL: never was, is closed; the 30th is closed");
+        sentences.test("Terms", CLOSE, "NULL: never was, also with all 30, is closed; the 30th is closed");
         int[] never = {LEAST, NO, -1, 1, 30, MOST};
         for (int n : never) {
             ShowDesk x = roots(1);
@@ -280,6 +280,10 @@ final class StepBounds extends Bounds {
             dueFault("SCENE " + n, x, NULL, 0, 1, 13, n);
             due("count(2)", x.count(2), 1);
         }
+        ShowDesk full = roots(1);
+        for (int i = 0; i < 30; i++) full.scene();
+        dueFault("SCENE 30 of 30", full, NULL, 13, 30);
+        due("count(2)", full.count(2), 30);
         ShowDesk y = roots(1);
         for (int i = 0; i < 30; i++) y.scene();
         y.listen(0, AFTER, 0, 29);
